@@ -65,6 +65,44 @@ final class Check {
         return x;
     }
 
+    /** All that can be told of an object but what can be undone, the tape and the fault; some 100 calls for three members. */
+    static String dump(TravelToken x) {
+        StringBuilder all = new StringBuilder();
+        for (int what = 0; what <= 10; what++) {
+            all.append(x.now(what)).append(' ');
+        }
+        int n = x.now(0);
+        for (int m = 0; m < n; m++) {
+            for (int what = 0; what <= 8; what++) {
+                all.append(x.member(m, what)).append(' ');
+            }
+            for (int other = 0; other < n; other++) {
+                all.append(x.member(m, 10 + other)).append(' ').append(x.member(m, 30 + other)).append(' ');
+            }
+            int queue = x.pass(m, 0);
+            for (int k = 0; k < n && queue >= 0; k++) {
+                all.append(x.pass(m, 10 + k)).append(' ');
+                if (k < queue) {
+                    all.append(x.pass(m, 20 + k)).append(' ').append(x.pass(m, 30 + k)).append(' ');
+                }
+            }
+        }
+        for (int way = 0; way < n * n; way++) {
+            int letters = x.way(way / n, way % n);
+            for (int k = 0; k < letters; k++) {
+                for (int what = 0; what < 3; what++) {
+                    all.append(x.message(way / n, way % n, k, what)).append(' ');
+                }
+            }
+            all.append('/');
+        }
+        return all.toString();
+    }
+
+    static void same(String call, String got, String want) {
+        due(call + " leaves " + got + ", due is " + want + ": same", got.equals(want), true);
+    }
+
     private static int four(byte[] bytes, int at) {
         int number = 0;
         for (int i = at; i < at + 4; i++) {
