@@ -50,6 +50,13 @@ public final class ActsTest {
         Check.due("P14 0 sends none", x.ask(0), 1);
         x.lose(1, 0);
         Check.due("P16 44 are, too", x.suspect(5), -3);
+        x.lose(1, 0);
+        x.lose(1, 2);
+        x.lose(1, 2);
+        Check.due("P16 36 messages", x.now(1), 36);
+        Check.due("P16 41 are, too", x.suspect(5), -3);
+        x.lose(1, 3);
+        Check.due("P16 40 are not", x.suspect(5), 2);
 
         TravelToken y = Check.of(thirty + "suspect 3;");
         y.lose(1, 0);

@@ -9,6 +9,7 @@ public final class RulesTest {
         theRowIsWrittenWhenThePassIsSent();
         aPassForOneThatAsksNoMore();
         aPassEndsTheVotes();
+        aPassBringsItsAge();
         aDoubtBelowTheMark();
         aDoubtOneAboveTheMark();
         aDoubtThatComesLate();
@@ -138,6 +139,19 @@ public final class RulesTest {
         Check.due("in", x.member(1, 5), 1);
         Check.due("asks no more", x.member(1, 4), 0);
         Check.due("P6 made", x.now(5), 0);
+    }
+
+    private static void aPassBringsItsAge() {
+        TravelToken x = Check.of("members 3;ask 0;ask 1;ask 2;suspect 1;send 1 0;send 1 0;send 2 0;lose 1 2;lose 1 2;");
+        Check.due("the mark is 2", x.member(0, 6), 2);
+        x.leave(0);
+        x.send(0, 1);
+        x.send(0, 1);
+        x.leave(1);
+        Check.due("2 knows of no doubt", x.member(2, 3), 1);
+        x.send(1, 2);
+        Check.due("the mark is 2", x.member(2, 6), 2);
+        Check.due("so the age is", x.member(2, 3), 2);
     }
 
     private static void aDoubtBelowTheMark() {

@@ -69,6 +69,9 @@ public final class TextTest {
         fault("members 2;ask", 13, 1);
         fault("members 2;ask;", 13, 1);
         fault("members 2;ask1;", 10, 1);
+        fault("members 2;askz 1;", 10, 1);
+        fault("members 2;aask 1;", 10, 1);
+        fault("members 2;ask 0z;", 14, 1);
         fault("members 2;ask 1", 15, 1);
         fault("members 2;ask 1 0;", 16, 1);
         fault("members 2;ask 100;", 14, 1);
@@ -210,6 +213,27 @@ public final class TextTest {
         Check.due("P6 lost", x.now(6), 2);
         Check.due("P6 left", x.now(7), 1);
         x.settle(1);
+        beginsAnew(x);
+        // Once more, with much that a text must wipe out wherever it is held.
+        TravelToken y = Check.of("members 6;rank 1 3;ask 0;ask 1;ask 2;ask 3;send 1 0;send 2 0;send 3 0;leave 0;send 0 1;"
+                + "leave 1;lose 1 4;");
+        y.suspect(3);
+        y.order(3);
+        beginsAnew(y);
+        TravelToken z = Check.of("members 6;rank 1 3;ask 0;ask 1;ask 2;send 1 0;send 2 0;suspect 2;send 2 0;");
+        z.soon(5);
+        beginsAnew(z);
+        TravelToken v = Check.of("members 2;ask 1;send 1 0;lose 0 1;suspect 1;send 1 0;send 0 1;");
+        v.would(0, 1);
+        v.soon(0);
+        beginsAnew(v);
+        // A text with a fault was half done ahead of this one.
+        TravelToken w = new TravelToken();
+        Check.read(w, "members 6;rank 1 3;ask 0;ask 1;ask 2;send 1 0;send 2 0;leave 0;send 0 1;ask 1;");
+        beginsAnew(w);
+    }
+
+    private static void beginsAnew(TravelToken x) {
         Check.due("P4 anew", Check.read(x, "members 5;"), 0);
         int[] due = {5, 0, 1, 1, 0, 0, 0, 0, 0, 0, 1, 0, 0};
         for (int what = 0; what < due.length; what++) {

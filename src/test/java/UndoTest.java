@@ -4,6 +4,7 @@ public final class UndoTest {
 
     public static void main(String[] args) {
         eachActIsUndone();
+        allOfTheStateComesBack();
         tenAreKept();
         refusedActsAreNotKept();
         aSettleByNoneIsKept();
@@ -35,6 +36,35 @@ public final class UndoTest {
             Check.same("P20 act " + kind, Check.dump(x), before);
             Check.due("P20 no more", x.undo(), -1);
         }
+    }
+
+    /** States with much in them; a settle() changes them, the text behind undo() wipes out what was not copied. */
+    private static void allOfTheStateComesBack() {
+        String[] starts = {
+            // A pass with a queue is had, numbers were served, one message was lost.
+            "members 3;ask 0;leave 0;ask 0;ask 1;ask 2;send 1 0;send 2 0;leave 0;lose 1 2;send 0 1;ask 0;",
+            // A pass with a queue is on its way.
+            "members 3;ask 0;leave 0;ask 0;ask 1;ask 2;send 1 0;send 2 0;leave 0;",
+            // Votes are collected, one came of one that was served.
+            "members 3;ask 0;leave 0;ask 1;send 1 0;lose 0 1;suspect 1;send 1 0;send 0 1;",
+            // A pass was made by votes, an old one died.
+            "members 2;ask 1;send 1 0;suspect 1;send 1 0;send 0 1;send 0 1;",
+        };
+        for (String start : starts) {
+            TravelToken x = Check.of(start);
+            String before = Check.dump(x);
+            x.settle(4);
+            x.settle(99);
+            Check.due("P20", x.undo(), 1);
+            Check.due("P20", x.undo(), 0);
+            Check.same("P20 behind '" + start + "'", Check.dump(x), before);
+        }
+        TravelToken y = Check.of(starts[2]);
+        y.suspect(1);
+        y.undo();
+        y.settle(99);
+        Check.due("P20 the vote is back", y.member(1, 30), 1);
+        Check.due("P20 and counts", y.now(5), 1);
     }
 
     private static void tenAreKept() {
