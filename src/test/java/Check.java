@@ -65,7 +65,31 @@ final class Check {
         return x;
     }
 
-    /** All that can be told of an object but what can be undone, the tape and the fault; some 100 calls for three members. */
+    /** Reads on a new object: a FAULT of that kind at that place, and all stays. */
+    static void faulty(String text, int place, int kind) {
+        TravelToken x = new TravelToken();
+        due("P4 text() of '" + text + "'", read(x, text), -1 - place);
+        due("P5 fault() of '" + text + "'", x.fault(), kind);
+        due("P4 the tape is empty behind '" + text + "'", x.now(12), 0);
+        due("P4 all stays behind '" + text + "'", x.now(0), 2);
+        due("P4 no message behind '" + text + "'", x.now(1), 0);
+    }
+
+    /** Reads on a new object: a TEXT with so many ACTS. */
+    static TravelToken good(String text, int acts) {
+        TravelToken x = new TravelToken();
+        due("P4 text() of '" + text + "'", read(x, text), acts);
+        due("P5 fault() of '" + text + "'", x.fault(), 0);
+        due("P4 the tape is empty behind '" + text + "'", x.now(12), 0);
+        return x;
+    }
+
+    /** All that can be told of an object; some 120 calls for three members, up to 400 for six. */
+    static String state(TravelToken x) {
+        return x.fault() + " " + x.now(11) + " " + x.now(12) + " " + dump(x);
+    }
+
+    /** All that can be told of an object but what can be undone, the tape and the fault. */
     static String dump(TravelToken x) {
         StringBuilder all = new StringBuilder();
         for (int what = 0; what <= 10; what++) {
@@ -73,30 +97,44 @@ final class Check {
         }
         int n = x.now(0);
         for (int m = 0; m < n; m++) {
-            for (int what = 0; what <= 8; what++) {
-                all.append(x.member(m, what)).append(' ');
-            }
-            for (int other = 0; other < n; other++) {
-                all.append(x.member(m, 10 + other)).append(' ').append(x.member(m, 30 + other)).append(' ');
-            }
-            int queue = x.pass(m, 0);
-            for (int k = 0; k < n && queue >= 0; k++) {
-                all.append(x.pass(m, 10 + k)).append(' ');
-                if (k < queue) {
-                    all.append(x.pass(m, 20 + k)).append(' ').append(x.pass(m, 30 + k)).append(' ');
-                }
-            }
+            dumpMember(x, m, n, all);
+            dumpPass(x, m, n, all);
         }
         for (int way = 0; way < n * n; way++) {
-            int letters = x.way(way / n, way % n);
-            for (int k = 0; k < letters; k++) {
-                for (int what = 0; what < 3; what++) {
-                    all.append(x.message(way / n, way % n, k, what)).append(' ');
-                }
-            }
-            all.append('/');
+            dumpWay(x, way / n, way % n, all);
         }
         return all.toString();
+    }
+
+    private static void dumpMember(TravelToken x, int m, int n, StringBuilder all) {
+        for (int what = 0; what <= 8; what++) {
+            all.append(x.member(m, what)).append(' ');
+        }
+        for (int table = 10; table <= 30; table += 10) {
+            for (int other = 0; other < n; other++) {
+                all.append(x.member(m, table + other)).append(' ');
+            }
+        }
+    }
+
+    private static void dumpPass(TravelToken x, int m, int n, StringBuilder all) {
+        int queue = x.pass(m, 0);
+        for (int k = 0; k < n && queue >= 0; k++) {
+            all.append(x.pass(m, 10 + k)).append(' ');
+            if (k < queue) {
+                all.append(x.pass(m, 20 + k)).append(' ').append(x.pass(m, 30 + k)).append(' ');
+            }
+        }
+    }
+
+    private static void dumpWay(TravelToken x, int from, int to, StringBuilder all) {
+        int letters = x.way(from, to);
+        for (int k = 0; k < letters; k++) {
+            for (int what = 0; what < 3; what++) {
+                all.append(x.message(from, to, k, what)).append(' ');
+            }
+        }
+        all.append('/');
     }
 
     static void same(String call, String got, String want) {

@@ -4,6 +4,9 @@ public final class TapeTest {
         feedsHighestByteFirst();
         feedsUpTo640();
         endCutsOnly();
+        endOfEachLength();
+        everyByteOfANumber();
+        aFullTapeIsReadStill();
         Check.close();
     }
 
@@ -58,5 +61,53 @@ public final class TapeTest {
         x.end(16);
         Check.feed(x, "ask 1;");
         Check.due("P3 the first 16 and those behind them", x.text(), 2);
+    }
+
+    private static void endOfEachLength() {
+        for (int length : new int[] {0, 1, 19, 20, 21, 600, 601, 639, 640}) {
+            TravelToken x = new TravelToken();
+            while (x.now(12) < length) {
+                x.feed(0, 0, 0, 0, 0);
+            }
+            Check.due("P3 end(" + length + ")", x.end(length), true);
+            Check.due("P3 one more", x.end(length + 1), false);
+            Check.due("P3 one below 0", x.end(-1), false);
+            Check.due("P3 all stay", x.now(12), length);
+            Check.due("P3 all of them", x.end(length), true);
+            Check.due("P3 all stay", x.now(12), length);
+            Check.due("P3 one less", x.end(length - 1), length > 0);
+            Check.due("P3 one less", x.now(12), Math.max(0, length - 1));
+            Check.due("P3 none", x.end(0), true);
+            Check.due("P3 none", x.now(12), 0);
+        }
+    }
+
+    /** Each of the twenty bytes in turn is the only one that is no blank: its place is told. */
+    private static void everyByteOfANumber() {
+        for (int place = 0; place < 20; place++) {
+            int[] fives = new int[5];
+            for (int i = 0; i < 5; i++) {
+                fives[i] = 0x20202020;
+            }
+            int shift = 24 - place % 4 * 8;
+            fives[place / 4] ^= 0xdf << shift;
+            TravelToken x = new TravelToken();
+            x.feed(fives[0], fives[1], fives[2], fives[3], fives[4]);
+            Check.due("P2 the byte at " + place, x.text(), -1 - place);
+            x.feed(0x20202020, 0x0a0a0a0a, 0x20202020, 0x0a0a0a0a, 0x20202020);
+            x.feed(fives[0], fives[1], fives[2], fives[3], fives[4]);
+            Check.due("P2 behind twenty", x.text(), -21 - place);
+        }
+    }
+
+    private static void aFullTapeIsReadStill() {
+        TravelToken x = new TravelToken();
+        Check.feed(x, "members 3;" + " ".repeat(630));
+        Check.due("P2 full", x.now(12), 640);
+        Check.due("P2 refused", x.feed(-1, -1, -1, -1, -1), -1);
+        Check.due("P3 refused", x.end(641), false);
+        x.end(600);
+        Check.due("P4 what was refused changed no byte", x.text(), 0);
+        Check.due("P2 there is room again", x.feed(0, 0, 0, 0, 0), 20);
     }
 }

@@ -13,20 +13,12 @@ public final class TextTest {
         Check.close();
     }
 
-    /** Reads on a new object: the place of the fault, and its kind. */
     private static void fault(String text, int place, int kind) {
-        TravelToken x = new TravelToken();
-        Check.due("P4 text() of '" + text + "'", Check.read(x, text), -1 - place);
-        Check.due("P5 fault() of '" + text + "'", x.fault(), kind);
-        Check.due("P4 the tape is empty behind '" + text + "'", x.now(12), 0);
-        Check.due("P4 all stays behind '" + text + "'", x.now(0), 2);
+        Check.faulty(text, place, kind);
     }
 
     private static void good(String text, int acts) {
-        TravelToken x = new TravelToken();
-        Check.due("P4 text() of '" + text + "'", Check.read(x, text), acts);
-        Check.due("P5 fault() of '" + text + "'", x.fault(), 0);
-        Check.due("P4 the tape is empty behind '" + text + "'", x.now(12), 0);
+        Check.good(text, acts);
     }
 
     private static void goodTexts() {
