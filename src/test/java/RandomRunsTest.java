@@ -9,11 +9,12 @@ public final class RandomRunsTest {
     private final Random random;
     private final TravelToken x = new TravelToken();
     private final Model model = new Model();
-    // How much this run loses, suspects, settles and asks for, so that the runs differ in kind.
+    // How much this run loses, suspects, settles, asks and undoes, so that the runs differ in kind.
     private final int losing;
     private final int suspecting;
     private final int settling;
     private final int asking;
+    private final int undoing;
     // A way on which messages are mostly left, so that an old pass may outlive its time.
     private final int slowWay;
     private int size = 2;
@@ -25,6 +26,7 @@ public final class RandomRunsTest {
         suspecting = random.nextInt(5);
         settling = random.nextInt(3);
         asking = 2 + random.nextInt(12);
+        undoing = random.nextInt(3) == 0 ? 1 + random.nextInt(30) : 1;
         slowWay = random.nextInt(2) == 0 ? random.nextInt(16) : -1;
     }
 
@@ -140,7 +142,7 @@ public final class RandomRunsTest {
         int way = someWay();
         int from = way / 8;
         int to = way % 8;
-        int pick = random.nextInt(asking + suspecting + losing + settling + 24);
+        int pick = random.nextInt(asking + suspecting + losing + settling + 23 + undoing);
         if (pick < asking) {
             int who = oneOf(~(model.now(8) | model.now(9)));
             due(name + "ask " + who, x.ask(who), model.ask(who));

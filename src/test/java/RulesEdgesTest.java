@@ -431,6 +431,11 @@ public final class RulesEdgesTest {
             Check.due("P6 the one on its way is too old", y.now(3), 0);
             Check.due("P6 there is one", y.now(2), 1);
         }
+        for (int m = 1; m < 6; m++) {
+            TravelToken v = Check.of("members 6;ask " + m + ";send " + m + " 0;send 0 " + m + ";ask 0;suspect 0;");
+            Check.due("P6 0 is above the one that is had", v.now(3), 0);
+            Check.due("P6 it is had", v.now(10), 1 << m);
+        }
         TravelToken z = Check.of("members 3;ask 1;send 1 0;");
         Check.due("P6 one on its way", z.now(3), 1);
         z.lose(0, 1);

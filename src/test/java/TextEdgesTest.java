@@ -6,6 +6,7 @@ public final class TextEdgesTest {
         everyByteBehindALine();
         everyByteBehindANumber();
         everyByteBehindAWord();
+        everyLetterOfAWord();
         numbersHaveOneOrTwoDigits();
         membersAreTwoToSix();
         ranksAreOfMembersThereAre();
@@ -18,6 +19,7 @@ public final class TextEdgesTest {
         theEndInsteadOfAToken();
         actsThatAnswerBelowZero();
         actsUpTo40Messages();
+        asManyActsAsThereIsRoomFor();
         settleIsNeverAFault();
         theFirstFaultAlongTheText();
         upTo600Bytes();
@@ -83,6 +85,26 @@ public final class TextEdgesTest {
         Check.good("members\n\n  2 \n;\n", 0);
         Check.good("members 2;ask 1;send 1 0;", 2);
         Check.faulty("members 2;send 10;", 17, 1);
+    }
+
+    /** Each WORD with a letter changed, left out, or put in at each of its places. */
+    private static void everyLetterOfAWord() {
+        String[] lines = {"members 2;", "rank 1 5;", "ask 1;", "leave 0;", "suspect 1;", "send 1 0;", "lose 1 0;",
+            "settle 1;"};
+        String[] heads = {"", "members 2;", "members 2;", "members 2;ask 0;", "members 2;ask 1;", "members 2;ask 1;",
+            "members 2;ask 1;", "members 2;"};
+        for (int i = 0; i < lines.length; i++) {
+            int letters = lines[i].indexOf(' ');
+            Check.due("P5 of " + lines[i], Check.of(heads[i] + lines[i]).fault(), 0);
+            for (int at = 0; at < letters; at++) {
+                String before = lines[i].substring(0, at);
+                String behind = lines[i].substring(at + 1);
+                char letter = lines[i].charAt(at);
+                Check.faulty(heads[i] + before + behind, heads[i].length(), 1);
+                Check.faulty(heads[i] + before + (char) (letter == 'z' ? 'a' : letter + 1) + behind, heads[i].length(), 1);
+                Check.faulty(heads[i] + before + letter + letter + behind, heads[i].length(), 1);
+            }
+        }
     }
 
     private static void numbersHaveOneOrTwoDigits() {
@@ -322,6 +344,15 @@ public final class TextEdgesTest {
         Check.faulty(thirtyFive + "ask 3;lose 1 0;lose 1 0;lose 1 0;lose 1 0;ask 4;",
                 thirtyFive.length() + 47, 4);
         Check.good(thirtyFive + "ask 3;lose 1 0;lose 1 0;lose 1 0;lose 1 0;lose 1 0;ask 4;", 14);
+    }
+
+    private static void asManyActsAsThereIsRoomFor() {
+        String text = "members 6;ask 0;ask 1;ask 2;ask 3;ask 4;ask 5;" + "leave 0;ask 0;".repeat(39) + "leave 0;";
+        Check.due("P4 it is full", text.length(), LONGEST);
+        TravelToken x = Check.good(text, 85);
+        Check.due("P4 all were done", x.now(7), 40);
+        Check.due("P4 nobody was seen", x.now(10), 1);
+        Check.faulty(text + " ", LONGEST, 1);
     }
 
     private static void settleIsNeverAFault() {

@@ -219,6 +219,25 @@ public final class TextTest {
         v.would(0, 1);
         v.soon(0);
         beginsAnew(v);
+        // Twice, so that it makes no difference where the object holds what was ahead.
+        TravelToken u = Check.of("members 6;ask 0;leave 0;ask 1;suspect 1;suspect 1;send 1 0;send 1 0;send 1 0;lose 1 2;"
+                + "suspect 1;send 1 3;send 1 3;send 3 1;");
+        u.would(1, 0);
+        beginsAnew(u);
+        beginsAnew(u);
+        Check.due("P4 anew, no mark of old", Check.read(u, "members 6;ask 1;ask 2;"), 2);
+        Check.due("P6 valid", u.now(3), 1);
+        TravelToken t = Check.of("members 6;ask 0;leave 0;ask 1;send 1 0;send 0 1;leave 1;ask 0;send 0 1;lose 1 0;suspect 0;");
+        t.would(0, 1);
+        beginsAnew(t);
+        beginsAnew(t);
+        TravelToken s = Check.of("members 2;ask 0;ask 1;suspect 1;suspect 1;send 1 0;send 1 0;send 1 0;leave 0;");
+        Check.due("P10 a pass of mark 3 is on its way", s.message(0, 1, 2, 1), 3);
+        Check.read(s, "members 2;");
+        Check.due("P4 anew, with other messages", Check.read(s, "members 6;ask 1;ask 2;ask 3;ask 4;ask 5;"), 5);
+        Check.due("P6 25 messages", s.now(1), 25);
+        Check.due("P6 one pass", s.now(2), 1);
+        Check.due("P6 valid", s.now(3), 1);
         // A text with a fault was half done ahead of this one.
         TravelToken w = new TravelToken();
         Check.read(w, "members 6;rank 1 3;ask 0;ask 1;ask 2;send 1 0;send 2 0;leave 0;send 0 1;ask 1;");
@@ -243,6 +262,9 @@ public final class TextTest {
             }
         }
         Check.due("P4 anew, no queue", x.pass(0, 0), 0);
+        for (int m = 0; m < 5; m++) {
+            Check.due("P4 anew, last of " + m, x.pass(0, 10 + m), 0);
+        }
         Check.due("P20 nothing can be undone", x.undo(), -1);
     }
 }
