@@ -378,6 +378,13 @@ public final class TextEdgesTest {
         Check.faulty("members 2;rank 1 3!" + "rank 1 3;".repeat(20), 18, 1);
         Check.faulty("members 2;ask 2;ask 3;", 15, 4);
         Check.faulty("members 2;ask 1;ask 2;ask 1;", 21, 4);
+        // What stands behind a LINE without its ; is not looked at.
+        for (String rest : new String[] {"ask 1;", "ask 2;", "ask 1;!", "settle 0;", "rank 2 1;", "1;ask 2;", "rank 1 10;"}) {
+            Check.faulty("members 2 " + rest, 10, 1);
+            Check.faulty("members 2;rank 1 1 " + rest, 19, 1);
+            Check.faulty("members 2;ask 0 " + rest, 16, 1);
+            Check.faulty("members 2;ask 1;send 1 0 " + rest, 25, 1);
+        }
         // Of one TOKEN: three digits are no NUMBER that is not as told.
         Check.faulty("members 777;", 8, 1);
         Check.faulty("members 2;rank 100 3;", 15, 1);
@@ -416,6 +423,11 @@ public final class TextEdgesTest {
         }
         Check.faulty(blanks(600) + "memberz 2;", 600, 1);
         Check.faulty(blanks(600) + "!", 600, 1);
+        for (int start = 601; start < 630; start++) {
+            Check.faulty(blanks(start) + "!", 600, 1);
+            Check.faulty("members 2;" + blanks(start - 10) + "settle 0;", 600, 1);
+            Check.faulty("members 2;ask 2" + blanks(start - 15) + ";", 600, 1);
+        }
         Check.faulty(blanks(599) + "!", 599, 1);
         Check.faulty(blanks(599) + "! ", 599, 1);
         String upTo599 = "members 2;rank 1" + blanks(583);
