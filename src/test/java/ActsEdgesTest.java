@@ -111,12 +111,16 @@ public final class ActsEdgesTest {
     /** The pass is lost, 1 asks, and there are as many messages of 1 as told; all others are idle. */
     private static TravelToken withMessages(int n, int messages) {
         TravelToken x = Check.of("members " + n + ";ask 1;send 1 0;lose 0 1;");
-        while (x.now(1) < messages) {
+        // Each loop goes on a few times at most: with a faulty class the test ends, too.
+        for (int tries = 0; tries < 50 && x.now(1) < messages; tries++) {
             Check.due("suspect of " + n, x.suspect(1) > 0, true);
         }
-        for (int to = n - 1; x.now(1) > messages; to = to == 2 ? n - 1 : to - 1) {
+        int to = n - 1;
+        for (int tries = 0; tries < 50 && x.now(1) > messages; tries++) {
             x.lose(1, n == 2 ? 0 : to);
+            to = to == 2 ? n - 1 : to - 1;
         }
+        Check.due("so many messages", x.now(1), messages);
         return x;
     }
 

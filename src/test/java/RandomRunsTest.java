@@ -5,6 +5,8 @@ import java.util.Random;
 public final class RandomRunsTest {
     private static final int RUNS = 6000;
     private static final int CALLS = 512;
+    // What lookAtAll() needs at most: six members, 41 messages, one pass that is had.
+    private static final int CALLS_OF_ALL = 410;
 
     private final Random random;
     private final TravelToken x = new TravelToken();
@@ -40,6 +42,14 @@ public final class RandomRunsTest {
     private void run(int seed) {
         String name = "run " + seed + ": ";
         bringText(name, goodText());
+        if (seed % 2 == 0) {
+            actMuch(name);
+        } else {
+            actAndLookAtAll(name);
+        }
+    }
+
+    private void actMuch(String name) {
         while (calls < CALLS - 60 && Check.wrong() == 0) {
             if (random.nextInt(60) == 0) {
                 bringText(name, random.nextInt(3) == 0 ? goodText() : spoilt(goodText()));
@@ -51,6 +61,59 @@ public final class RandomRunsTest {
         }
         while (calls < CALLS && Check.wrong() == 0) {
             look(name);
+        }
+    }
+
+    private void actAndLookAtAll(String name) {
+        int acts = random.nextInt(CALLS - CALLS_OF_ALL);
+        while (calls < acts && Check.wrong() == 0) {
+            act(name);
+        }
+        lookAtAll(name);
+        Check.due(name + "no more than 512 calls", calls <= CALLS, true);
+    }
+
+    private void lookAtAll(String name) {
+        for (int what = -1; what <= 13; what++) {
+            due(name + "now " + what, x.now(what), model.now(what));
+        }
+        for (int m = 0; m < size; m++) {
+            lookAtMember(name, m);
+        }
+        for (int way = 0; way < size * size; way++) {
+            lookAtWay(name, way / size, way % size);
+        }
+        for (int k = 0; k <= size; k++) {
+            due(name + "order " + k, x.order(k), model.order(k));
+        }
+    }
+
+    private void lookAtMember(String name, int m) {
+        for (int what = 0; what < 30 + size; what++) {
+            if (what < 9 || what >= 10 && what % 10 < size) {
+                due(name + "member " + m + " " + what, Check.member(x, m, what), model.member(m, what));
+            }
+        }
+        due(name + "soon " + m, x.soon(m), model.soon(m));
+        due(name + "pass " + m, x.pass(m, 0), model.pass(m, 0));
+        for (int what = 10; what < 36 && model.pass(m, 0) >= 0; what++) {
+            if (what % 10 < size) {
+                due(name + "pass " + m + " " + what, x.pass(m, what), model.pass(m, what));
+            }
+        }
+    }
+
+    private void lookAtWay(String name, int from, int to) {
+        String way = " " + from + " " + to;
+        due(name + "way" + way, x.way(from, to), model.way(from, to));
+        for (int k = 0; k < model.way(from, to); k++) {
+            for (int what = 0; what < 3; what++) {
+                due(name + "message" + way + " " + k + " " + what, x.message(from, to, k, what),
+                        model.message(from, to, k, what));
+            }
+        }
+        if (model.way(from, to) > 0) {
+            due(name + "would" + way, x.would(from, to), model.would(from, to));
         }
     }
 
@@ -149,6 +212,9 @@ public final class RandomRunsTest {
         } else if ((pick -= asking) < suspecting) {
             int who = oneOf(model.now(8));
             due(name + "suspect " + who, x.suspect(who), model.suspect(who));
+            if (random.nextInt(4) == 0) {
+                suspectOnceMore(name, who);
+            }
         } else if ((pick -= suspecting) < losing) {
             due(name + "lose " + from + " " + to, x.lose(from, to), model.lose(from, to));
         } else if ((pick -= losing) < settling) {
@@ -164,6 +230,15 @@ public final class RandomRunsTest {
         }
     }
 
+    /** The holder hears of the second doubt alone, by which its pass dies, though it may be in. */
+    private void suspectOnceMore(String name, int who) {
+        due(name + "suspect " + who, x.suspect(who), model.suspect(who));
+        int holder = Integer.numberOfTrailingZeros(model.now(10));
+        for (int tries = 0; tries < 4 && model.way(who, holder) > 1; tries++) {
+            due(name + "lose " + who + " " + holder, x.lose(who, holder), model.lose(who, holder));
+        }
+    }
+
     private void look(String name) {
         int who = someone();
         int way = someWay();
@@ -172,7 +247,10 @@ public final class RandomRunsTest {
         int what = random.nextInt(2) == 0 ? random.nextInt(12) - 1 : 10 * random.nextInt(5) + random.nextInt(7);
         int k = random.nextInt(8) - 1;
         switch (random.nextInt(8)) {
-            case 0 -> due(name + "now " + (k + 6), x.now(k + 6), model.now(k + 6));
+            case 0 -> {
+                int count = random.nextInt(15) - 1;
+                due(name + "now " + count, x.now(count), model.now(count));
+            }
             case 1 -> due(name + "member " + who + " " + what, Check.member(x, who, what), model.member(who, what));
             case 2 -> {
                 int has = oneOf(model.now(10));

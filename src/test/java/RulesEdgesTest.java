@@ -499,7 +499,7 @@ public final class RulesEdgesTest {
             for (int m = 0; m < n; m++) {
                 soon[m] = (y.now(9) >> m & 1) == 1 ? 0 : -2;
             }
-            for (int i = 1; y.settle(1) == 1; i++) {
+            for (int i = 1; i <= 200 && y.settle(1) == 1; i++) {
                 int in = y.now(9);
                 for (int m = 0; m < n; m++) {
                     if ((in >> m & 1) == 1) {

@@ -17,6 +17,7 @@ public final class RulesTest {
         haveForAnotherOne();
         votesOfAllOthers();
         oneThatIsInGetsAPass();
+        oneThatIsInKeepsThePassFromOneThatAsks();
         Check.close();
     }
 
@@ -253,5 +254,23 @@ public final class RulesTest {
         Check.due("last of 1", x.pass(1, 11), 0);
         Check.due("P15 it stays", x.leave(1), 1);
         Check.due("last of 1", x.pass(1, 11), 1);
+    }
+
+    /** As above, but 1 knows that 0 asks: it HANDS ON only when it leaves, not when the PASS comes. */
+    private static void oneThatIsInKeepsThePassFromOneThatAsks() {
+        TravelToken x = Check.of("members 3;ask 1;send 1 0;send 0 1;send 1 2;ask 2;suspect 2;suspect 2;"
+                + "send 2 0;send 2 0;send 2 0;send 2 1;lose 2 1;send 2 1;lose 0 2;send 0 2;send 1 2;"
+                + "leave 2;ask 0;send 0 1;");
+        Check.due("1 is in, without a pass", x.now(9), 2);
+        Check.due("nobody has one", x.now(10), 0);
+        Check.due("1 saw 0 ask", x.member(1, 10), 1);
+        Check.due("P11 nothing", x.would(2, 1), 0);
+        Check.due("P17 the pass", x.send(2, 1), 1);
+        Check.due("1 is in", x.now(9), 2);
+        Check.due("and has the pass", x.now(10), 2);
+        Check.due("0 is not yet in its queue", x.pass(1, 0), 0);
+        Check.due("the request of 0 to 2 is on its way alone", x.now(1), 1);
+        Check.due("P15 now it goes to 0", x.leave(1), 0);
+        Check.due("with what 1 was served", x.member(1, 31), 1);
     }
 }
